@@ -75,13 +75,13 @@ public final class TransferTest {
         for (int value = 0; value < 5; value++) {
             bench.send(1, Bench.add(1, 1, value));
         }
-        bench.send(1, Bench.remove(1, 1, 4));
+        bench.send(1, Bench.remove(1, 1, 4), Bench.add(0, 3, 2), Bench.remove(0, 3, 1));
         fetch(bench);
         CHECK.due("messages(), five records", bench.zone.messages(), 2);
         CHECK.due("message(0)", bench.zone.message(0), 510004);
         CHECK.due("message(1)", bench.zone.message(1), 510101);
         bench.deliverAll();
-        hasJust(bench, 31, 110, 111, 112, 113);
+        hasJust(bench, 32, 110, 111, 112, 113);
     }
 
     private static void wholeForWhoHasNoVersion() {
