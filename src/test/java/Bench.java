@@ -1,6 +1,11 @@
 /** A zone with key 0 at hand, and short ways to say what the tests say often. */
 final class Bench {
     static final int SECRET = 77;
+    static final int NOTIFY = 1;
+    static final int ASK = 2;
+    static final int TELL = 3;
+    static final int FETCH = 4;
+    static final int PART = 5;
 
     /** One need or change of an update. */
     record Line(boolean isNeed, int form, int name, int type, int value) {
@@ -120,6 +125,52 @@ final class Bench {
     void dropAll() {
         for (int i = 0; i < 200 && zone.messages() > 0; i++) {
             zone.drop(0);
+        }
+    }
+
+    void dropNotifies() {
+        for (int i = zone.messages() - 1; i >= 0; i--) {
+            if (zone.message(i) / 100000 == NOTIFY) {
+                zone.drop(i);
+            }
+        }
+    }
+
+    /** Where the first message of this kind from or to this secondary lies; -1 if there is none. */
+    int find(int kind, int secondary) {
+        int count = zone.messages();
+        for (int i = 0; i < count; i++) {
+            if (zone.message(i) / 10000 == 10 * kind + secondary) {
+                return i;
+            }
+        }
+        return -1;
+    }
+
+    /** Delivers the first message of this kind from or to this secondary. */
+    boolean deliverFirst(int kind, int secondary) {
+        return zone.deliver(find(kind, secondary));
+    }
+
+    /** A secondary that is asking gets its ASK, TELL, FETCH and PARTs through; all else stays under way. */
+    void catchUp(int secondary) {
+        beginFetch(secondary);
+        deliverFirst(FETCH, secondary);
+        for (int i = 0; i < 30 && find(PART, secondary) >= 0; i++) {
+            deliverFirst(PART, secondary);
+        }
+    }
+
+    /** A secondary that is asking gets its ASK and TELL through and has a FETCH under way. */
+    void beginFetch(int secondary) {
+        deliverFirst(ASK, secondary);
+        deliverFirst(TELL, secondary);
+    }
+
+    /** The clock grows by more than one call can make it grow. */
+    void pass(int ticks) {
+        for (int left = ticks; left > 0; left -= 20) {
+            zone.tick(Math.min(left, 20));
         }
     }
 }

@@ -2,11 +2,20 @@
 final class Check {
     private int wrong;
     private int seen;
+    private String sentence;
+
+    /** The sentence of the document that the answers from here on are held to. */
+    void about(String sentence) {
+        this.sentence = sentence;
+    }
 
     void due(String call, int got, int want) {
         seen++;
         if (got != want) {
             wrong++;
+            if (sentence != null) {
+                System.out.println("\"" + sentence + "\"");
+            }
             System.out.println(call + " answered " + got + ", due is " + want);
         }
     }
