@@ -1,4 +1,4 @@
-/** The promises 1 to 8: a test for each sentence that names an edge of a call. */
+/** The promises 1 to 8, and how many calls there are: a test for each sentence that names an edge. */
 public final class InputEdgesTest {
     private static final int LEAST = Integer.MIN_VALUE;
     private static final int MOST = Integer.MAX_VALUE;
@@ -29,6 +29,7 @@ public final class InputEdgesTest {
         armAnew();
         tickOutOfBounds();
         tickWithinBounds();
+        lastOfTheCalls();
         CHECK.end();
     }
 
@@ -183,9 +184,12 @@ public final class InputEdgesTest {
         CHECK.no("a wrong need does not count", bench.zone.need(0, 8, 1, 0));
         CHECK.yes("the fourth need", bench.zone.need(0, 0, 1, 0));
         CHECK.no("a fifth need", bench.zone.need(0, 0, 1, 0));
-        CHECK.yes("a change beside four needs", bench.zone.change(0, 1, 1, 1));
         CHECK.due("update", bench.zone.update(0, 0, bench.zone.seal(0, 0)), 0);
-        CHECK.yes("a need of the next draft", bench.zone.need(0, 0, 1, 0));
+        bench.say(Bench.add(1, 1, 1), Bench.add(1, 1, 2), Bench.add(1, 1, 3), Bench.add(1, 1, 4));
+        for (int i = 1; i <= 4; i++) {
+            CHECK.yes("need " + i + " of the next draft, beside four changes", bench.zone.need(0, 0, 1, 0));
+        }
+        CHECK.no("its fifth need", bench.zone.need(0, 0, 1, 0));
     }
 
     private static void changeOutOfBounds() {
@@ -219,10 +223,13 @@ public final class InputEdgesTest {
         CHECK.no("a wrong change does not count", bench.zone.change(0, 8, 1, 0));
         CHECK.yes("the fourth change", bench.zone.change(0, 1, 1, 4));
         CHECK.no("a fifth change", bench.zone.change(0, 1, 1, 5));
-        CHECK.yes("a need beside four changes", bench.zone.need(0, 0, 1, 0));
         CHECK.due("update", bench.zone.update(0, 0, bench.zone.seal(0, 0)), 0);
         CHECK.due("size(0)", bench.zone.size(0), 5);
-        CHECK.yes("a change of the next draft", bench.zone.change(0, 1, 1, 5));
+        bench.say(Bench.used(0), Bench.used(0), Bench.used(0), Bench.used(0));
+        for (int i = 1; i <= 4; i++) {
+            CHECK.yes("change " + i + " of the next draft, beside four needs", bench.zone.change(0, 2, 1, i));
+        }
+        CHECK.no("its fifth change", bench.zone.change(0, 2, 1, 5));
     }
 
     private static void sealWithoutASecret() {
@@ -363,5 +370,17 @@ public final class InputEdgesTest {
             CHECK.due("update, six after the clock", bench.send(n + 6, Bench.add(1, 1, 1)), 18);
             CHECK.due("update, five after the clock", bench.send(n + 5, Bench.add(1, 1, 1)), 0);
         }
+    }
+
+    /** One call, 170 times three calls and one more: what has grown by then is still right. */
+    private static void lastOfTheCalls() {
+        CHECK.about("An object is used for at most 512 calls after it has been made");
+        Bench bench = bench();
+        for (int i = 1; i <= 170; i++) {
+            Bench.Line line = i % 2 == 1 ? Bench.add(1, 1, 1) : Bench.remove(1, 1, 1);
+            CHECK.due("update " + i, bench.send(0, line), 0);
+            CHECK.due("serial(0) after it", bench.zone.serial(0), 10 + i);
+        }
+        CHECK.due("messages(), the 512th call", bench.zone.messages(), 24);
     }
 }

@@ -3,6 +3,7 @@ public final class MessageCallEdgesTest {
     private static final int LEAST = Integer.MIN_VALUE;
     private static final int MOST = Integer.MAX_VALUE;
     private static final Check CHECK = new Check();
+    private static final String BEHIND = "or it is a PART, and another PART to the same secondary lies before it.";
 
     public static void main(String[] args) {
         deliverOfNone();
@@ -11,6 +12,7 @@ public final class MessageCallEdgesTest {
         deliverOfAPartBehindAnother();
         deliverOfAPartBehindOthersOfTheOther();
         deliverOfAPartBehindAnAlteredOne();
+        deliverOfOtherKindsBehindParts();
         dropOfNone();
         dropOfEachKind();
         alterOfNone();
@@ -103,7 +105,7 @@ public final class MessageCallEdgesTest {
     }
 
     private static void deliverOfAPartBehindAnother() {
-        CHECK.about("or it is a PART, and another PART to the same secondary lies before it.");
+        CHECK.about(BEHIND);
         ZoneNodes zone = withParts().zone;
         for (int i : new int[] {1, 2, 4, 5}) {
             CHECK.no("deliver(" + i + ")", zone.deliver(i));
@@ -117,7 +119,7 @@ public final class MessageCallEdgesTest {
     }
 
     private static void deliverOfAPartBehindOthersOfTheOther() {
-        CHECK.about("or it is a PART, and another PART to the same secondary lies before it.");
+        CHECK.about(BEHIND);
         Bench bench = withParts();
         for (int i = 0; i < 3; i++) {
             CHECK.yes("deliver(3), behind those of 1", bench.zone.deliver(3));
@@ -133,11 +135,32 @@ public final class MessageCallEdgesTest {
     }
 
     private static void deliverOfAPartBehindAnAlteredOne() {
-        CHECK.about("or it is a PART, and another PART to the same secondary lies before it.");
+        CHECK.about(BEHIND);
         ZoneNodes zone = withParts().zone;
         zone.alter(0);
         CHECK.no("deliver(1)", zone.deliver(1));
         CHECK.due("messages()", zone.messages(), 6);
+    }
+
+    /** Only a PART waits for the PARTs before it. */
+    private static void deliverOfOtherKindsBehindParts() {
+        CHECK.about(BEHIND);
+        Bench bench = bench();
+        bench.zone.crash(2);
+        bench.zone.tick(9);
+        bench.beginFetch(1);
+        bench.deliverFirst(Bench.FETCH, 1);
+        bench.deliverFirst(Bench.ASK, 1);
+        bench.send(9, Bench.add(1, 1, 1));
+        int[] rows = {210000, 510001, 310000, 110000, 120000};
+        for (int i = 0; i < rows.length; i++) {
+            CHECK.due("message(" + i + ")", bench.zone.message(i), rows[i]);
+        }
+        CHECK.yes("deliver of a NOTIFY behind a PART", bench.zone.deliver(3));
+        CHECK.yes("deliver of a TELL behind a PART", bench.zone.deliver(2));
+        CHECK.due("messages()", bench.zone.messages(), 3);
+        CHECK.yes("deliver of a PART behind an ASK", bench.zone.deliver(1));
+        CHECK.due("serial(1)", bench.zone.serial(1), 10);
     }
 
     private static void dropOfNone() {

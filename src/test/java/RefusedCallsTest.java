@@ -81,17 +81,25 @@ public final class RefusedCallsTest {
 
     /** Sees that the call is refused and that a zone in this state then goes on as if it had not been made. */
     private static void refused(Supplier<Bench> state, String call, Predicate<ZoneNodes> isRefused) {
-        Bench touched = state.get();
-        CHECK.yes(call + " is refused", isRefused.test(touched.zone));
-        CHECK.yes(call + " changes nothing", future(touched).equals(future(state.get())));
+        for (int way = 0; way < 2; way++) {
+            Bench touched = state.get();
+            CHECK.yes(call + " is refused", isRefused.test(touched.zone));
+            CHECK.yes(call + " changes nothing", future(touched, way).equals(future(state.get(), way)));
+        }
     }
 
-    /** The answers of a run of calls that shows all there is to the state of a zone. */
-    private static String future(Bench bench) {
+    /**
+     * The answers of a run of calls that shows what there is to the state of a zone: what lies under way arrives
+     * first, or the draft does, with which a primary that is armed crashes.
+     */
+    private static String future(Bench bench, int way) {
         ZoneNodes zone = bench.zone;
         StringBuilder seen = new StringBuilder(picture(zone));
         for (int x = 1; x < 3; x++) {
             seen.append(zone.restart(x));
+        }
+        if (way == 1) {
+            seen.append(arrivals(zone, 20));
         }
         seen.append(zone.update(0, CLOCK, zone.seal(0, CLOCK))).append(picture(zone));
         seen.append(zone.restart(0)).append(picture(zone));
@@ -100,7 +108,12 @@ public final class RefusedCallsTest {
             seen.append(zone.tick(1)).append(zone.messages()).append(' ').append(zone.query(1, 0, 3));
             seen.append(zone.state(1)).append(zone.state(2)).append(' ');
         }
-        for (int i = 0; i < 60; i++) {
+        return seen.append(arrivals(zone, 60)).toString();
+    }
+
+    private static String arrivals(ZoneNodes zone, int count) {
+        StringBuilder seen = new StringBuilder();
+        for (int i = 0; i < count; i++) {
             seen.append(zone.deliver(0));
         }
         return seen.append(picture(zone)).toString();

@@ -4,6 +4,10 @@ public final class SecondaryEdgesTest {
     private static final int RETRY = 4;
     private static final int EXPIRE = 25;
     private static final Check CHECK = new Check();
+    private static final String TICK = "A TICK: the clock grows by 1; then secondaries 1 and 2, if they are up";
+    private static final String EARLIER =
+            "or an earlier serial than that of the message (the message's is later): it asks.";
+    private static final String REFRESHED = "otherwise it is refreshed.";
 
     public static void main(String[] args) {
         versionOutlivesACrash();
@@ -179,7 +183,7 @@ public final class SecondaryEdgesTest {
     }
 
     private static void ticksOfOneCallAreMadeOneByOne() {
-        CHECK.about("A TICK: the clock grows by 1; then secondaries 1 and 2, if they are up");
+        CHECK.about(TICK);
         Bench bench = bench();
         bench.zone.tick(20);
         CHECK.due("messages(), ASKs at 1, 5, 9, 13 and 17", bench.zone.messages(), 10);
@@ -189,7 +193,7 @@ public final class SecondaryEdgesTest {
     }
 
     private static void tickLeavesAlone() {
-        CHECK.about("A TICK: the clock grows by 1; then secondaries 1 and 2, if they are up");
+        CHECK.about(TICK);
         Bench down = bench();
         down.zone.crash(1);
         down.zone.crash(2);
@@ -205,7 +209,7 @@ public final class SecondaryEdgesTest {
     }
 
     private static void tickAsksInTheOrderOfNodes() {
-        CHECK.about("A TICK: the clock grows by 1; then secondaries 1 and 2, if they are up");
+        CHECK.about(TICK);
         ZoneNodes zone = bench().zone;
         zone.tick(RETRY + 1);
         for (int i = 0; i < 4; i++) {
@@ -227,7 +231,7 @@ public final class SecondaryEdgesTest {
     }
 
     private static void notifyOfALaterSerial() {
-        CHECK.about("or an earlier serial than that of the message (the message's is later): it asks.");
+        CHECK.about(EARLIER);
         Bench bench = withVersion();
         bench.send(1, Bench.add(1, 1, 1));
         bench.deliverFirst(Bench.NOTIFY, 1);
@@ -237,7 +241,7 @@ public final class SecondaryEdgesTest {
     }
 
     private static void notifyOfTheSameSerial() {
-        CHECK.about("or an earlier serial than that of the message (the message's is later): it asks.");
+        CHECK.about(EARLIER);
         Bench bench = withVersion();
         bench.zone.crash(0);
         bench.zone.restart(0);
@@ -248,7 +252,7 @@ public final class SecondaryEdgesTest {
     }
 
     private static void notifyOfAnEarlierSerial() {
-        CHECK.about("or an earlier serial than that of the message (the message's is later): it asks.");
+        CHECK.about(EARLIER);
         Bench bench = bench();
         bench.send(0, Bench.add(1, 1, 1));
         bench.send(0, Bench.add(1, 1, 2));
@@ -329,7 +333,7 @@ public final class SecondaryEdgesTest {
     }
 
     private static void tellOfTheSameSerial() {
-        CHECK.about("otherwise it is refreshed.");
+        CHECK.about(REFRESHED);
         Bench bench = withVersion();
         bench.zone.tick(REFRESH + 1);
         bench.beginFetch(1);
@@ -340,7 +344,7 @@ public final class SecondaryEdgesTest {
 
     /** An ASK is sent twice; the second TELL brings a version, and the first, with an earlier serial, comes last. */
     private static void tellOfAnEarlierSerial() {
-        CHECK.about("otherwise it is refreshed.");
+        CHECK.about(REFRESHED);
         Bench bench = bench();
         bench.zone.crash(2);
         bench.zone.tick(1 + RETRY);
@@ -383,7 +387,7 @@ public final class SecondaryEdgesTest {
     }
 
     private static void tellOfTheSameSerialWhileThePrimaryIsDown() {
-        CHECK.about("otherwise it is refreshed.");
+        CHECK.about(REFRESHED);
         Bench bench = withVersion();
         bench.zone.tick(REFRESH);
         bench.deliverFirst(Bench.ASK, 1);

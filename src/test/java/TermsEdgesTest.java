@@ -3,6 +3,7 @@ public final class TermsEdgesTest {
     private static final int LEAST = Integer.MIN_VALUE;
     private static final int MOST = Integer.MAX_VALUE;
     private static final Check CHECK = new Check();
+    private static final String LATER = "A serial a is LATER than b if a - b, which wraps, is more than 0.";
 
     public static void main(String[] args) {
         nodesAreThree();
@@ -116,7 +117,7 @@ public final class TermsEdgesTest {
     }
 
     private static void sameSerialIsNotLater() {
-        CHECK.about("A serial a is LATER than b if a - b, which wraps, is more than 0.");
+        CHECK.about(LATER);
         for (int serial : new int[] {0, -1, LEAST, MOST}) {
             Bench bench = bench(serial);
             bench.tickAndDeliverAll();
@@ -128,7 +129,7 @@ public final class TermsEdgesTest {
     }
 
     private static void laterSerialWraps() {
-        CHECK.about("A serial a is LATER than b if a - b, which wraps, is more than 0.");
+        CHECK.about(LATER);
         for (int serial : new int[] {0, -1, LEAST, MOST}) {
             Bench bench = bench(serial);
             bench.tickAndDeliverAll();
@@ -141,7 +142,7 @@ public final class TermsEdgesTest {
     }
 
     private static void earlierSerialWraps() {
-        CHECK.about("A serial a is LATER than b if a - b, which wraps, is more than 0.");
+        CHECK.about(LATER);
         for (int serial : new int[] {0, -1, LEAST, MOST}) {
             Bench bench = bench(serial - 1);
             bench.send(0, Bench.add(1, 1, 1));

@@ -4,6 +4,18 @@ public final class TransferEdgesTest {
     private static final int RETRY = 4;
     private static final int EXPIRE = 25;
     private static final Check CHECK = new Check();
+    private static final String DIFFERENCES =
+            "If the message has a serial, and the journal has entries from that serial on to the primary's,"
+            + " without a gap (an entry goes from its old serial to that + 1): DIFFERENCES";
+    private static final String WHOLE = "Otherwise the WHOLE: all records in order.";
+    private static final String ITEMS =
+            "for each of these entries in order its records that are gone and those that have come, each in"
+            + " their order.";
+    private static final String PARTS =
+            "They are sent as PARTs of 4 items each, the last one with 1 .. 4, numbered 0, 1, ..";
+    private static final String ALTERED =
+            "PART at a secondary: if it was altered, all other PARTs to it are gone, and it is idle and due at"
+            + " the clock + RETRY.";
 
     public static void main(String[] args) {
         differencesUpToFourEntries();
@@ -29,6 +41,8 @@ public final class TransferEdgesTest {
         lastPartOfAWhole();
         lastPartOfDifferences();
         lastPartRefreshes();
+        firstAndLastRecordAsAWhole();
+        firstAndLastRecordByDifferences();
         CHECK.end();
     }
 
@@ -80,8 +94,7 @@ public final class TransferEdgesTest {
     }
 
     private static void differencesUpToFourEntries() {
-        CHECK.about("If the message has a serial, and the journal has entries from that serial on to the primary's,"
-                + " without a gap (an entry goes from its old serial to that + 1): DIFFERENCES");
+        CHECK.about(DIFFERENCES);
         for (int versions = 1; versions <= 4; versions++) {
             Bench bench = withVersion(10);
             write(bench, versions);
@@ -91,7 +104,7 @@ public final class TransferEdgesTest {
     }
 
     private static void wholeBeyondFourEntries() {
-        CHECK.about("Otherwise the WHOLE: all records in order.");
+        CHECK.about(WHOLE);
         for (int versions = 5; versions <= 7; versions++) {
             Bench bench = withVersion(10);
             write(bench, versions);
@@ -105,7 +118,7 @@ public final class TransferEdgesTest {
 
     /** The journal has an entry from the serial 0, but a secondary without a version has no serial. */
     private static void wholeWithoutASerial() {
-        CHECK.about("Otherwise the WHOLE: all records in order.");
+        CHECK.about(WHOLE);
         Bench bench = bench(0);
         bench.send(0, Bench.add(1, 1, 1), Bench.add(1, 1, 2), Bench.add(1, 1, 3));
         bench.send(0, Bench.wipe(1));
@@ -117,8 +130,7 @@ public final class TransferEdgesTest {
     }
 
     private static void differencesFromTheSerialZero() {
-        CHECK.about("If the message has a serial, and the journal has entries from that serial on to the primary's,"
-                + " without a gap (an entry goes from its old serial to that + 1): DIFFERENCES");
+        CHECK.about(DIFFERENCES);
         Bench bench = withVersion(0);
         CHECK.due("serial(1)", bench.zone.serial(1), 0);
         bench.send(1, Bench.add(1, 1, 1), Bench.add(1, 1, 2), Bench.add(1, 1, 3));
@@ -130,8 +142,7 @@ public final class TransferEdgesTest {
     }
 
     private static void differencesOverTheWrap() {
-        CHECK.about("If the message has a serial, and the journal has entries from that serial on to the primary's,"
-                + " without a gap (an entry goes from its old serial to that + 1): DIFFERENCES");
+        CHECK.about(DIFFERENCES);
         for (int before = 0; before < 4; before++) {
             Bench bench = withVersion(Integer.MAX_VALUE - before);
             write(bench, 4);
@@ -143,7 +154,7 @@ public final class TransferEdgesTest {
     }
 
     private static void wholeOverTheWrap() {
-        CHECK.about("Otherwise the WHOLE: all records in order.");
+        CHECK.about(WHOLE);
         Bench bench = withVersion(Integer.MAX_VALUE);
         write(bench, 5);
         fetch(bench);
@@ -151,8 +162,7 @@ public final class TransferEdgesTest {
     }
 
     private static void recordsGoneAndComeOfEachEntry() {
-        CHECK.about("for each of these entries in order its records that are gone and those that have come,"
-                + " each in their order.");
+        CHECK.about(ITEMS);
         Bench bench = withVersion(10);
         bench.send(1, Bench.add(1, 1, 1));
         bench.send(1, Bench.wipe(1));
@@ -172,8 +182,7 @@ public final class TransferEdgesTest {
     }
 
     private static void aliasInPlaceOfAnotherIsGoneAndCome() {
-        CHECK.about("for each of these entries in order its records that are gone and those that have come,"
-                + " each in their order.");
+        CHECK.about(ITEMS);
         Bench bench = withVersion(10);
         bench.send(1, Bench.add(1, 2, 7));
         bench.send(1, Bench.add(1, 2, 0));
@@ -199,7 +208,7 @@ public final class TransferEdgesTest {
     }
 
     private static void partsOfAWhole() {
-        CHECK.about("They are sent as PARTs of 4 items each, the last one with 1 .. 4, numbered 0, 1, ..");
+        CHECK.about(PARTS);
         for (int records : new int[] {1, 2, 3, 4, 5, 7, 8, 9, 23, 24}) {
             Bench bench = bench(10);
             for (int i = 0; i < records - 1; i += 4) {
@@ -219,7 +228,7 @@ public final class TransferEdgesTest {
     }
 
     private static void partsOfDifferences() {
-        CHECK.about("They are sent as PARTs of 4 items each, the last one with 1 .. 4, numbered 0, 1, ..");
+        CHECK.about(PARTS);
         for (int items = 1; items <= 16; items++) {
             Bench bench = withVersion(10);
             for (int first = 0; first < items; first += 4) {
@@ -237,7 +246,7 @@ public final class TransferEdgesTest {
 
     /** 23 records of one name go by one change, and whatever comes goes again: 26 + 6 + 6 + 6 items. */
     private static void partsOfTheMostDifferences() {
-        CHECK.about("They are sent as PARTs of 4 items each, the last one with 1 .. 4, numbered 0, 1, ..");
+        CHECK.about(PARTS);
         Bench bench = bench(10);
         int[] types = {1, 3, 4};
         for (int i = 0; i < 23; i++) {
@@ -308,26 +317,22 @@ public final class TransferEdgesTest {
     }
 
     private static void alteredFirstPart() {
-        CHECK.about("PART at a secondary: if it was altered, all other PARTs to it are gone, and it is idle and due"
-                + " at the clock + RETRY.");
+        CHECK.about(ALTERED);
         alteredPart(0);
     }
 
     private static void alteredMiddlePart() {
-        CHECK.about("PART at a secondary: if it was altered, all other PARTs to it are gone, and it is idle and due"
-                + " at the clock + RETRY.");
+        CHECK.about(ALTERED);
         alteredPart(1);
     }
 
     private static void alteredLastPart() {
-        CHECK.about("PART at a secondary: if it was altered, all other PARTs to it are gone, and it is idle and due"
-                + " at the clock + RETRY.");
+        CHECK.about(ALTERED);
         alteredPart(2);
     }
 
     private static void alteredOnlyPart() {
-        CHECK.about("PART at a secondary: if it was altered, all other PARTs to it are gone, and it is idle and due"
-                + " at the clock + RETRY.");
+        CHECK.about(ALTERED);
         Bench bench = bench(10);
         bench.zone.crash(2);
         bench.zone.tick(1);
@@ -344,8 +349,7 @@ public final class TransferEdgesTest {
 
     /** The expiry is still that of the version from the clock 1. */
     private static void alteredPartIsNotRefreshing() {
-        CHECK.about("PART at a secondary: if it was altered, all other PARTs to it are gone, and it is idle and due"
-                + " at the clock + RETRY.");
+        CHECK.about(ALTERED);
         for (int number = 0; number < 3; number++) {
             Bench bench = withThreeParts();
             bench.zone.alter(number);
@@ -358,8 +362,7 @@ public final class TransferEdgesTest {
     }
 
     private static void alteredPartLeavesTheOtherSecondaryAlone() {
-        CHECK.about("PART at a secondary: if it was altered, all other PARTs to it are gone, and it is idle and due"
-                + " at the clock + RETRY.");
+        CHECK.about(ALTERED);
         Bench bench = bench(10);
         bench.fill(0, 2);
         bench.dropAll();
@@ -437,5 +440,37 @@ public final class TransferEdgesTest {
         CHECK.due("query(1, 0, 3), not expired yet", bench.zone.query(1, 0, 3), 1);
         bench.zone.tick(1);
         CHECK.due("query(1, 0, 3), expired", bench.zone.query(1, 0, 3), -1);
+    }
+
+    /** The first and the last record that there can be come with one whole and are gone with the next. */
+    private static void firstAndLastRecordAsAWhole() {
+        CHECK.about(WHOLE);
+        Bench bench = bench(10);
+        bench.send(0, Bench.add(0, 1, 0), Bench.add(7, 4, 7));
+        bench.dropAll();
+        bench.tickAndDeliverAll();
+        bench.zone.crash(2);
+        hasJust(bench, 11, 10, 31, 747);
+        bench.send(1, Bench.remove(0, 1, 0), Bench.remove(7, 4, 7));
+        write(bench, 4);
+        fetch(bench);
+        partsAre(bench, 5);
+        bench.deliverAll();
+        hasJust(bench, 16, 31, 740, 741, 742, 743);
+    }
+
+    private static void firstAndLastRecordByDifferences() {
+        CHECK.about(ITEMS);
+        Bench bench = withVersion(10);
+        bench.send(1, Bench.add(0, 1, 0), Bench.add(7, 4, 7));
+        fetch(bench);
+        partsAre(bench, 2);
+        bench.deliverAll();
+        hasJust(bench, 11, 10, 31, 747);
+        bench.send(1, Bench.remove(0, 1, 0), Bench.remove(7, 4, 7));
+        fetch(bench);
+        partsAre(bench, 2);
+        bench.deliverAll();
+        hasJust(bench, 12, 31);
     }
 }

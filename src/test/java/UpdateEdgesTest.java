@@ -3,6 +3,10 @@ public final class UpdateEdgesTest {
     private static final int LEAST = Integer.MIN_VALUE;
     private static final int MOST = Integer.MAX_VALUE;
     private static final Check CHECK = new Check();
+    private static final String EXACT =
+            "8: for some need EXACT (3), the records of its name and type are not just those that needs EXACT"
+            + " with that name and type tell.";
+    private static final String TOO_MANY = "2, and nothing changes, if there would be more than 24 records then.";
 
     public static void main(String[] args) {
         keyWithoutSecret();
@@ -98,7 +102,9 @@ public final class UpdateEdgesTest {
             nothingComesOf(bench, 16, 0, 0, seal);
         }
         bench.say(line);
-        CHECK.due("update with the right seal", bench.zone.update(0, 0, right), 0);
+        nothingComesOf(bench, 16, 0, 3, right);
+        bench.say(line);
+        CHECK.due("update with the right seal", bench.zone.update(0, 3, Bench.sealOf(Bench.SECRET, 3, line)), 0);
     }
 
     private static void timeTooFarOff() {
@@ -216,8 +222,7 @@ public final class UpdateEdgesTest {
     }
 
     private static void exactTellsTooFew() {
-        CHECK.about("8: for some need EXACT (3), the records of its name and type are not just those that needs"
-                + " EXACT with that name and type tell.");
+        CHECK.about(EXACT);
         Bench bench = furnished();
         nothingComesOf(bench, 8, Bench.exact(1, 1, 1), Bench.add(3, 1, 1));
         nothingComesOf(bench, 8, Bench.exact(1, 1, 2), Bench.exact(1, 1, 2), Bench.add(3, 1, 1));
@@ -225,16 +230,14 @@ public final class UpdateEdgesTest {
     }
 
     private static void exactTellsTooMany() {
-        CHECK.about("8: for some need EXACT (3), the records of its name and type are not just those that needs"
-                + " EXACT with that name and type tell.");
+        CHECK.about(EXACT);
         nothingComesOf(furnished(), 8, Bench.exact(1, 1, 1), Bench.exact(1, 1, 2), Bench.exact(1, 1, 3),
                 Bench.add(3, 1, 1));
         nothingComesOf(furnished(), 8, Bench.exact(0, 3, 1), Bench.exact(0, 3, 0), Bench.add(3, 1, 1));
     }
 
     private static void exactTellsJustThose() {
-        CHECK.about("8: for some need EXACT (3), the records of its name and type are not just those that needs"
-                + " EXACT with that name and type tell.");
+        CHECK.about(EXACT);
         versionComesOf(furnished(), 6, Bench.exact(1, 1, 2), Bench.exact(1, 1, 1), Bench.add(3, 1, 1));
         versionComesOf(furnished(), 6, Bench.exact(1, 1, 2), Bench.exact(1, 1, 1), Bench.exact(1, 1, 2),
                 Bench.exact(1, 1, 1), Bench.add(3, 1, 1));
@@ -242,15 +245,13 @@ public final class UpdateEdgesTest {
     }
 
     private static void exactOfNothing() {
-        CHECK.about("8: for some need EXACT (3), the records of its name and type are not just those that needs"
-                + " EXACT with that name and type tell.");
+        CHECK.about(EXACT);
         nothingComesOf(furnished(), 8, Bench.exact(7, 1, 0), Bench.add(3, 1, 1));
         nothingComesOf(furnished(), 8, Bench.exact(2, 4, 3), Bench.add(3, 1, 1));
     }
 
     private static void exactOfSeveralNamesAndTypes() {
-        CHECK.about("8: for some need EXACT (3), the records of its name and type are not just those that needs"
-                + " EXACT with that name and type tell.");
+        CHECK.about(EXACT);
         versionComesOf(furnished(), 6, Bench.exact(1, 1, 2), Bench.exact(1, 4, 5), Bench.exact(1, 1, 1),
                 Bench.exact(2, 1, 3), Bench.add(3, 1, 1));
         nothingComesOf(furnished(), 8, Bench.exact(1, 1, 2), Bench.exact(1, 4, 5), Bench.exact(1, 1, 1),
@@ -386,7 +387,7 @@ public final class UpdateEdgesTest {
     }
 
     private static void changesAreDoneOnACopy() {
-        CHECK.about("2, and nothing changes, if there would be more than 24 records then.");
+        CHECK.about(TOO_MANY);
         Bench bench = bench();
         bench.fill(0, 5);
         nothingComesOf(bench, 2, Bench.add(6, 1, 0), Bench.add(6, 1, 1), Bench.add(6, 1, 2), Bench.add(6, 1, 3));
@@ -397,7 +398,7 @@ public final class UpdateEdgesTest {
     }
 
     private static void moreThan24Records() {
-        CHECK.about("2, and nothing changes, if there would be more than 24 records then.");
+        CHECK.about(TOO_MANY);
         Bench bench = bench();
         bench.fill(0, 5);
         versionComesOf(bench, 24, Bench.add(6, 1, 0), Bench.add(6, 1, 1), Bench.add(6, 1, 2));
@@ -409,7 +410,7 @@ public final class UpdateEdgesTest {
     }
 
     private static void moreThan24RecordsOnTheWay() {
-        CHECK.about("2, and nothing changes, if there would be more than 24 records then.");
+        CHECK.about(TOO_MANY);
         Bench bench = bench();
         bench.fill(0, 5);
         bench.send(0, Bench.add(6, 1, 0), Bench.add(6, 1, 1), Bench.add(6, 1, 2));

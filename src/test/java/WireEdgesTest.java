@@ -1,6 +1,10 @@
 /** The section "Terms" on messages under way and crashes: a test for each sentence that names an edge. */
 public final class WireEdgesTest {
     private static final Check CHECK = new Check();
+    private static final String LIMIT =
+            "Of NOTIFY, ASK and TELL what would be sent while 24 of these kinds are under way is lost.";
+    private static final String CRASH = "but when a node crashes all FETCHes and PARTs from and to it are gone";
+    private static final String LOST = "What arrives at a node that is down is lost.";
 
     public static void main(String[] args) {
         messagesAreInTheOrderInWhichTheyWereSent();
@@ -56,7 +60,7 @@ public final class WireEdgesTest {
     }
 
     private static void notifiesBeyond24AreLost() {
-        CHECK.about("Of NOTIFY, ASK and TELL what would be sent while 24 of these kinds are under way is lost.");
+        CHECK.about(LIMIT);
         Bench bench = withNotifies(22);
         CHECK.due("messages()", bench.zone.messages(), 22);
         bench.send(0, Bench.add(6, 1, 0));
@@ -71,7 +75,7 @@ public final class WireEdgesTest {
     }
 
     private static void asksBeyond24AreLost() {
-        CHECK.about("Of NOTIFY, ASK and TELL what would be sent while 24 of these kinds are under way is lost.");
+        CHECK.about(LIMIT);
         Bench full = withNotifies(24);
         full.zone.tick(1);
         CHECK.due("messages(), both ASKs lost", full.zone.messages(), 24);
@@ -97,7 +101,7 @@ public final class WireEdgesTest {
     }
 
     private static void tellTakesThePlaceOfItsAsk() {
-        CHECK.about("Of NOTIFY, ASK and TELL what would be sent while 24 of these kinds are under way is lost.");
+        CHECK.about(LIMIT);
         Bench bench = withNotifies(22);
         bench.zone.tick(1);
         CHECK.due("messages()", bench.zone.messages(), 24);
@@ -109,7 +113,7 @@ public final class WireEdgesTest {
     }
 
     private static void notifiesOfARestartBeyond24AreLost() {
-        CHECK.about("Of NOTIFY, ASK and TELL what would be sent while 24 of these kinds are under way is lost.");
+        CHECK.about(LIMIT);
         Bench bench = withNotifies(24);
         bench.zone.crash(0);
         bench.zone.restart(0);
@@ -122,7 +126,7 @@ public final class WireEdgesTest {
     }
 
     private static void allThreeKindsCountTogether() {
-        CHECK.about("Of NOTIFY, ASK and TELL what would be sent while 24 of these kinds are under way is lost.");
+        CHECK.about(LIMIT);
         Bench bench = withNotifies(20);
         bench.zone.tick(1);
         bench.deliverFirst(Bench.ASK, 1);
@@ -169,7 +173,7 @@ public final class WireEdgesTest {
     }
 
     private static void fetchesAndPartsDoNotCount() {
-        CHECK.about("Of NOTIFY, ASK and TELL what would be sent while 24 of these kinds are under way is lost.");
+        CHECK.about(LIMIT);
         Bench bench = withNotifies(20);
         bench.zone.tick(1);
         bench.beginFetch(1);
@@ -196,7 +200,7 @@ public final class WireEdgesTest {
     }
 
     private static void crashOfASecondaryTakesItsFetch() {
-        CHECK.about("but when a node crashes all FETCHes and PARTs from and to it are gone");
+        CHECK.about(CRASH);
         for (int x = 1; x < 3; x++) {
             Bench bench = withFetches();
             bench.zone.crash(x);
@@ -207,7 +211,7 @@ public final class WireEdgesTest {
     }
 
     private static void crashOfASecondaryTakesItsParts() {
-        CHECK.about("but when a node crashes all FETCHes and PARTs from and to it are gone");
+        CHECK.about(CRASH);
         for (int x = 1; x < 3; x++) {
             Bench bench = withFetches();
             bench.zone.deliver(0);
@@ -226,7 +230,7 @@ public final class WireEdgesTest {
     }
 
     private static void crashOfThePrimaryTakesAllStreams() {
-        CHECK.about("but when a node crashes all FETCHes and PARTs from and to it are gone");
+        CHECK.about(CRASH);
         for (int armed = 0; armed <= 3; armed++) {
             Bench bench = withFetches();
             bench.zone.deliver(1);
@@ -242,7 +246,7 @@ public final class WireEdgesTest {
     }
 
     private static void otherMessagesOutliveACrash() {
-        CHECK.about("but when a node crashes all FETCHes and PARTs from and to it are gone");
+        CHECK.about(CRASH);
         Bench bench = bench();
         bench.send(0, Bench.add(1, 1, 1));
         bench.zone.tick(1);
@@ -295,7 +299,7 @@ public final class WireEdgesTest {
     }
 
     private static void notifyAtASecondaryThatIsDown() {
-        CHECK.about("What arrives at a node that is down is lost.");
+        CHECK.about(LOST);
         Bench bench = bench();
         bench.send(0, Bench.add(1, 1, 1));
         bench.zone.crash(1);
@@ -306,7 +310,7 @@ public final class WireEdgesTest {
     }
 
     private static void tellAtASecondaryThatIsDown() {
-        CHECK.about("What arrives at a node that is down is lost.");
+        CHECK.about(LOST);
         Bench bench = bench();
         bench.zone.tick(1);
         bench.deliverFirst(Bench.ASK, 1);
@@ -317,7 +321,7 @@ public final class WireEdgesTest {
     }
 
     private static void askAtAPrimaryThatIsDown() {
-        CHECK.about("What arrives at a node that is down is lost.");
+        CHECK.about(LOST);
         Bench bench = bench();
         bench.zone.tick(1);
         bench.zone.crash(0);

@@ -3,6 +3,9 @@ public final class WriteEdgesTest {
     private static final int LEAST = Integer.MIN_VALUE;
     private static final int MOST = Integer.MAX_VALUE;
     private static final Check CHECK = new Check();
+    private static final String ARMED =
+            "If the primary is ARMED with one of these steps, it CRASHES instead of doing this step";
+    private static final String MARKED = "if one is marked and step 3 was not done, it is done";
 
     public static void main(String[] args) {
         serialWraps();
@@ -120,7 +123,7 @@ public final class WriteEdgesTest {
     }
 
     private static void crashInsteadOfStepOne() {
-        CHECK.about("If the primary is ARMED with one of these steps, it CRASHES instead of doing this step");
+        CHECK.about(ARMED);
         Bench bench = bench();
         crashAt(bench, 1);
         primaryIs(bench, 10, 1, 0);
@@ -130,7 +133,7 @@ public final class WriteEdgesTest {
     }
 
     private static void crashInsteadOfStepTwo() {
-        CHECK.about("If the primary is ARMED with one of these steps, it CRASHES instead of doing this step");
+        CHECK.about(ARMED);
         Bench bench = bench();
         crashAt(bench, 2);
         primaryIs(bench, 10, 1, 1);
@@ -138,7 +141,7 @@ public final class WriteEdgesTest {
     }
 
     private static void crashInsteadOfStepThree() {
-        CHECK.about("If the primary is ARMED with one of these steps, it CRASHES instead of doing this step");
+        CHECK.about(ARMED);
         Bench bench = bench();
         crashAt(bench, 3);
         primaryIs(bench, 10, 1, 1);
@@ -158,7 +161,7 @@ public final class WriteEdgesTest {
     }
 
     private static void armedStaysWithoutANewVersion() {
-        CHECK.about("If the primary is ARMED with one of these steps, it CRASHES instead of doing this step");
+        CHECK.about(ARMED);
         for (int step = 1; step <= 3; step++) {
             Bench bench = bench();
             bench.zone.arm(step);
@@ -183,30 +186,33 @@ public final class WriteEdgesTest {
         primaryIs(bench, 11, 2, 1);
     }
 
-    /** What was there before the dropped entry is still there to be told. */
+    /** What was there before the dropped entry is still there to be told, however much was written before. */
     private static void unmarkedEntryIsDroppedFromAFullJournal() {
         CHECK.about("When the primary comes up again, an entry that is not marked is dropped");
-        Bench bench = bench();
-        bench.tickAndDeliverAll();
-        for (int value = 0; value < 4; value++) {
-            bench.send(1, Bench.add(1, 1, value));
+        for (int before = 0; before <= 6; before++) {
+            Bench bench = written(before);
+            bench.dropAll();
+            bench.tickAndDeliverAll();
+            for (int value = 0; value < 4; value++) {
+                bench.send(1, Bench.add(2, 1, value));
+            }
+            bench.zone.arm(2);
+            bench.send(1, Bench.wipe(2));
+            primaryIs(bench, 14 + before, 5 + before, 5);
+            bench.zone.restart(0);
+            primaryIs(bench, 14 + before, 5 + before, 4);
+            bench.deliverFirst(Bench.NOTIFY, 1);
+            bench.beginFetch(1);
+            bench.deliverFirst(Bench.FETCH, 1);
+            CHECK.due("four items", bench.zone.message(bench.find(Bench.PART, 1)), 510004);
+            bench.deliverFirst(Bench.PART, 1);
+            CHECK.due("serial(1)", bench.zone.serial(1), 14 + before);
+            CHECK.due("size(1)", bench.zone.size(1), 5 + before);
         }
-        bench.zone.arm(2);
-        bench.send(1, Bench.wipe(1));
-        primaryIs(bench, 14, 5, 5);
-        bench.zone.restart(0);
-        primaryIs(bench, 14, 5, 4);
-        bench.deliverFirst(Bench.NOTIFY, 1);
-        bench.beginFetch(1);
-        bench.deliverFirst(Bench.FETCH, 1);
-        CHECK.due("four items, five records", bench.zone.message(bench.find(Bench.PART, 1)), 510004);
-        bench.deliverFirst(Bench.PART, 1);
-        CHECK.due("serial(1)", bench.zone.serial(1), 14);
-        CHECK.due("size(1)", bench.zone.size(1), 5);
     }
 
     private static void markedEntryIsDone() {
-        CHECK.about("if one is marked and step 3 was not done, it is done");
+        CHECK.about(MARKED);
         Bench bench = bench();
         crashAt(bench, 3);
         bench.zone.restart(0);
@@ -215,20 +221,22 @@ public final class WriteEdgesTest {
     }
 
     private static void markedEntryIsDoneInAFullJournal() {
-        CHECK.about("if one is marked and step 3 was not done, it is done");
-        Bench bench = written(4);
-        bench.zone.arm(3);
-        bench.send(0, Bench.remove(1, 1, 0), Bench.remove(1, 1, 3), Bench.add(2, 2, 2));
-        primaryIs(bench, 14, 5, 5);
-        bench.zone.restart(0);
-        primaryIs(bench, 15, 4, 4);
-        CHECK.no("has(0, 1, 1, 0)", bench.zone.has(0, 1, 1, 0));
-        CHECK.no("has(0, 1, 1, 3)", bench.zone.has(0, 1, 1, 3));
-        CHECK.yes("has(0, 2, 2, 2)", bench.zone.has(0, 2, 2, 2));
+        CHECK.about(MARKED);
+        for (int before = 4; before <= 7; before++) {
+            Bench bench = written(before);
+            bench.zone.arm(3);
+            bench.send(0, Bench.remove(1, 1, 0), Bench.remove(1, 1, 3), Bench.add(2, 2, 2));
+            primaryIs(bench, 10 + before, 1 + before, 5);
+            bench.zone.restart(0);
+            primaryIs(bench, 11 + before, before, 4);
+            CHECK.no("has(0, 1, 1, 0)", bench.zone.has(0, 1, 1, 0));
+            CHECK.no("has(0, 1, 1, 3)", bench.zone.has(0, 1, 1, 3));
+            CHECK.yes("has(0, 2, 2, 2)", bench.zone.has(0, 2, 2, 2));
+        }
     }
 
     private static void markedEntryIsDoneAtTheWrap() {
-        CHECK.about("if one is marked and step 3 was not done, it is done");
+        CHECK.about(MARKED);
         Bench bench = new Bench(MOST, 10, 4, 60);
         crashAt(bench, 3);
         primaryIs(bench, MOST, 1, 1);
@@ -237,7 +245,7 @@ public final class WriteEdgesTest {
     }
 
     private static void doneEntryIsNotDoneAgain() {
-        CHECK.about("if one is marked and step 3 was not done, it is done");
+        CHECK.about(MARKED);
         Bench bench = written(1);
         for (int round = 0; round < 2; round++) {
             bench.zone.crash(0);
